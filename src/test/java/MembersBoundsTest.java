@@ -282,9 +282,24 @@ public final class MembersBoundsTest extends Bounds {
         is("with itself into itself, of just one", "0: ", "5,6", x -> x.combine(0, 0, 0, 3) + ": " + members(x, 0));
         is("the two sets stay", "1 2 3 9 / 2 9 10", () -> sets("1-3,9", "2,9,10"),
                 x -> then(x.combine(2, 0, 1, 3), members(x, 0) + " / " + members(x, 1)));
+        combineAgain();
         saves("another set", Bounds::some, x -> x.combine(2, 0, 1, 0));
         saves("the same set", Bounds::some, x -> x.combine(1, 1, 1, 0));
         saves("an empty set", Bounds::fresh, x -> x.combine(1, 1, 1, 0));
+    }
+
+    /** Nothing is left of what another call has made of the sets. */
+    private static void combineAgain() {
+        is("behind a combine of 60", "2: 5 6", () -> sets("0-59", "5", "6"),
+                x -> then(x.combine(3, 0, 0, 0), x.combine(3, 1, 2, 0) + ": " + members(x, 3)));
+        is("behind a refused combine", "2: 60 61", () -> sets("0-59", "60", "61"), x -> {
+            Check.badState("61 members", () -> x.combine(3, 0, 1, 0));
+            return x.combine(3, 1, 2, 0) + ": " + members(x, 3);
+        });
+        is("behind ifAdded", "2: 5 6", () -> sets("0-59", "5", "6"),
+                x -> then(x.ifAdded(0, 9999), x.combine(3, 1, 2, 0) + ": " + members(x, 3)));
+        is("behind dearest", "0: ", () -> sets("0-59", "5", "6"),
+                x -> then(x.dearest(0, 0), x.combine(3, 1, 2, 1) + ": " + members(x, 3)));
     }
 
     private static void combineOfFullSets() {

@@ -371,6 +371,10 @@ public final class TermsBoundsTest extends Bounds {
         reads("one greater than a range of four digits", "4998-5000,5001", "4998 4999 5000 5001");
         reads("a range that begins one greater", "5,6-7", "5 6 7");
         hasError("less than the last one, greater than the one ahead of it", 6, "5,90,8,");
+        hasError("0 behind 0", 2, "0,0");
+        hasError("0 behind a range of 0", 4, "0-0,0");
+        reads("1 behind 0", "0,1", "0 1");
+        reads("1 behind a range of 0", "0-0,1", "0 1");
     }
 
     private static void textZeros() {
@@ -383,6 +387,7 @@ public final class TermsBoundsTest extends Bounds {
         hasError("0 ahead of another digit in a range", 3, "0-01");
         hasError("0 in a later part", 2, "3,0");
         hasError("0 as the second number of a greater one", 2, "3-0");
+        hasError("0 as the second number of 1", 2, "1-0");
         reads("0 ahead of a part", "0,1", "0 1");
         reads("0 ahead of a dash", "0-1", "0 1");
     }
@@ -412,6 +417,9 @@ public final class TermsBoundsTest extends Bounds {
                 + "it and this character");
         takesJust("", "0123456789");
         takesJust("0", ",-");
+        takesJust("0,", "123456789");
+        takesJust("1-", "123456789");
+        takesJust("0-0", ",");
         takesJust("5", "0123456789,-");
         takesJust("5,", "123456789");
         takesJust("5-", "123456789");

@@ -209,6 +209,7 @@ public final class WouldBoundsTest extends Bounds {
         bestWidthIs("whatever setting 1 is", 1, () -> settings(sets("5"), 8, 9999));
         bestWidthIs("a gap that is gone", 1, () -> {
             GapSets x = sets("5,7");
+            Check.same("with the gap", x.bestWidth(), 2);
             x.remove(0, 7);
             return x;
         });
@@ -230,6 +231,38 @@ public final class WouldBoundsTest extends Bounds {
         });
     }
 
+    /** The four sets have 59 gaps each, and all of these are unlike. */
+    private static GapSets unlikeGaps() {
+        GapSets x = new GapSets();
+        for (int set = 0; set < 4; set++) {
+            int number = 0;
+            for (int member = 0; member < 60; member++) {
+                x.add(set, number);
+                number += 1 + 4 * member + set;
+            }
+        }
+        return x;
+    }
+
+    private static int sizeByWidth(GapSets x, int most, int width) {
+        int size = 0;
+        for (int set = 0; set < 4; set++) {
+            size += x.ifSet(set, most, width);
+        }
+        return size;
+    }
+
+    private static void bestWidthOfAllGaps(int most) {
+        int best = 1;
+        for (int width = 2; width <= 236; width++) {
+            if (sizeByWidth(unlikeGaps(), most, width) < sizeByWidth(unlikeGaps(), most, best)) {
+                best = width;
+            }
+        }
+        bestWidthIs("236 gaps, all of them unlike, blocks of " + most, best,
+                () -> settings(unlikeGaps(), most, 300));
+    }
+
     private static void bestWidthOfSeveral() {
         promise("Promise 25, bestWidth");
         says("Finds the best width.");
@@ -242,6 +275,17 @@ public final class WouldBoundsTest extends Bounds {
         bestWidthIs("two greater gaps", 10, () -> settings(sets("0,10", "0,200,201"), 2, 300));
         says("with which the sizes of all sets together would be least");
         bestWidthIs("not of one set alone", 50, () -> sets("0,900-907", "0,50", "0,900-907"));
+        for (int most = 2; most <= 16; most++) {
+            bestWidthOfAllGaps(most);
+        }
+        bestWidthIs("other gaps in place of 236 that are gone", 306, () -> {
+            GapSets x = unlikeGaps();
+            Check.same("of 236 gaps", x.bestWidth() > 1, true);
+            for (int set = 0; set < 4; set++) {
+                x.removeRange(set, 0, 9999);
+            }
+            return put(x, 0, 0, 300, 601, 903, 1206, 1510, 1815, 2121);
+        });
         bestWidthIs("by setting 0 as it is", 100, () -> settings(sets("0,100,101"), 3, 300));
         says(NOTHING);
         keepsEverywhere("bestWidth", x -> x.bestWidth());
